@@ -509,8 +509,9 @@ public final class HedgeClips {
         static int clipped(int hedge, int clip) {
             int left = hedge;
             int to = Clip.to(clip);
+            int lost = Clip.lost(clip);
             for (int i = Clip.from(clip); i <= to; i++) {
-                left -= Math.min(Clip.lost(clip), leavesOf(hedge, i)) << (2 * i);
+                left -= Math.min(lost, leavesOf(hedge, i)) << (2 * i);
             }
             return left;
         }
