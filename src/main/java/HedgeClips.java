@@ -916,7 +916,7 @@ public final class HedgeClips {
         }
 
         /** The depth counts the clips ahead of this hedge: each took a leaf, so none lies deeper than all leaves. */
-        int worthAt(int hedge, int depth) {
+        private int worthAt(int hedge, int depth) {
             if (hedge <= 0 || hedge >= known.length || depth > MOST_LEAVES) {
                 return 0;
             }

@@ -196,6 +196,10 @@ public final class PromisesBoundariesTest extends Runs {
         run("clip(0, 0, 2) = 3", "fines 3 0", "clips 1 0", "taken 2 0", "clip(1, 1, 2) = 3", "fines 3 3", "clips 1 1", "taken 2 2", "pass() = 1",
                 "clip(2, 2, 2) = 3", "fines 3 6", "clips 1 2", "taken 2 4", "about(4) = 0");
 
+        sentence("11: k: leaves, 1 to 3");
+        run("hedge 333", "clip(0, 0, 1) = 0", "stands 233", "clip(1, 1, 2) = 0", "stands 213", "clip(2, 2, 3) = 3", "stands 210",
+                "clip(0, 0, 0) ! Argument", "clip(0, 0, 4) ! Argument");
+
         sentence("11: Returns the fines that it brings.");
         run("clip(0, 0, 1) = 0", "clip(0, 0, 1) = 3", "clip(1, 2, 2) = 6", "set(0, 9) = 3", "clip(2, 3, 2) = 9", "fines 6 12");
 
@@ -222,7 +226,7 @@ public final class PromisesBoundariesTest extends Runs {
 
     private static void otherActions() {
         sentence("12: Waters a stem: it has a leaf more.");
-        run("hedge 012333", "water(0) = 1", "stands 112333", "water(1) = 2", "stands 122333", "about(4) = 0", "clips 0 0", "about(5) = 0");
+        run("hedge 012333", "water(0) = 1", "stands 112333", "about(4) = 0", "water(1) = 2", "stands 122333", "about(4) = 0", "clips 0 0", "about(5) = 0");
         run("hedge 000000", "water(5) = 1", "stands 000001", "water(0) = 1", "stands 100001", "fines 0 0");
 
         sentence("12: Returns its leaves then.");
@@ -250,6 +254,10 @@ public final class PromisesBoundariesTest extends Runs {
 
         sentence("14: Returns the gardener who has the turn then.");
         run("pass() = 1", "pass() = 0", "pass() = 1", "about(4) = 1");
+
+        sentence("15: what: 0 or 1");
+        run("set(0, 2) = 3", "setting(0) = 2", "setting(1) = 2", "set(1, 3) = 2", "setting(0) = 2", "setting(1) = 3", "set(-1, 2) ! Argument",
+                "set(2, 2) ! Argument");
 
         sentence("15: v: the new value, in its range");
         run("set(0, 1) = 3", "set(0, 9) = 1", "set(1, 1) = 2", "set(1, 3) = 1", "setting(0) = 9", "setting(1) = 3", "set(0, 4) = 9", "set(0, 3) = 4");
@@ -282,6 +290,10 @@ public final class PromisesBoundariesTest extends Runs {
     }
 
     private static void ifClipped() {
+        sentence("17: k: leaves, 1 to 3");
+        run("hedge 333", "ifClipped(0, 0, 1, 1) = #233", "ifClipped(1, 1, 2, 1) = #313", "ifClipped(2, 2, 3, 1) = #330",
+                "ifClipped(0, 0, 0, 1) ! Argument", "ifClipped(0, 0, 4, 1) ! Argument");
+
         sentence("17: 0: the fines that it would bring;");
         run("ifClipped(0, 0, 1, 0) = 0", "ifClipped(0, 0, 2, 0) = 3", "ifClipped(0, 1, 3, 0) = 6", "set(0, 9) = 3", "ifClipped(2, 3, 2, 0) = 18",
                 "set(0, 1) = 9", "ifClipped(2, 3, 2, 0) = 2");
@@ -349,10 +361,12 @@ public final class PromisesBoundariesTest extends Runs {
 
         sentence("21: 0: the hedge behind n clips, or when it is over, as a number;");
         run("hedge 22", "goesOn(1, 0) = #12", "goesOn(2, 0) = #01", "goesOn(3, 0) = 0", "goesOn(4, 0) = 0", "goesOn(18, 0) = 0");
+        run("hedge 30", "goesOn(1, 0) = #10", "goesOn(2, 0) = 0", "hedge 000003", "goesOn(1, 0) = #000001", "goesOn(2, 0) = 0");
         run("hedge 00", "goesOn(1, 0) = 0", "hedge 010101", "wind(1) = 0", "goesOn(1, 0) = 0", "stands 010101");
 
         sentence("21: 1: the clips until it is over, at most n");
         run("hedge 22", "goesOn(1, 1) = 1", "goesOn(2, 1) = 2", "goesOn(3, 1) = 3", "goesOn(4, 1) = 3", "goesOn(18, 1) = 3");
+        run("hedge 30", "goesOn(1, 1) = 1", "goesOn(2, 1) = 2", "goesOn(3, 1) = 2", "hedge 000003", "goesOn(2, 1) = 2", "goesOn(3, 1) = 2");
         run("hedge 333333", "set(1, 1) = 2", "goesOn(17, 1) = 17", "goesOn(18, 1) = 18", "hedge 00", "goesOn(1, 1) = 0", "goesOn(18, 1) = 0");
 
         sentence("21: Throws IllegalArgumentException if n or what is out of range");
@@ -386,6 +400,12 @@ public final class PromisesBoundariesTest extends Runs {
     }
 
     private static void winner() {
+        sentence("23: if both clip as well as they can from now on.");
+        // The one ahead takes a leaf alone, or two of three, and leaves the bare stem to the other one.
+        run("set(1, 1) = 2", "hedge 20", "winner() = 0", "clip(0, 0, 1) = 0", "winner() = 0", "clip(0, 0, 1) = 3", "winner() = 0");
+        run("set(1, 1) = 2", "hedge 30", "winner() = 0", "clip(0, 0, 1) = 0", "winner() = 1", "clip(0, 0, 1) = 0", "winner() = 1");
+        run("hedge 010101", "wind(1) = 0", "winner() = 1", "wind(0) = 1", "winner() = 1", "hedge 111111", "winner() = 2");
+
         sentence("23: Returns the gardener with fewer fines, all that were got so far too;");
         run("hedge 10", "winner() = 1", "pass() = 1", "winner() = 0", "hedge 20", "winner() = 0", "pass() = 1", "winner() = 1");
         // What was paid before outweighs, by one, what is to come.
@@ -426,6 +446,10 @@ public final class PromisesBoundariesTest extends Runs {
         sentence("24: A script has 1 to 3 commands;");
         run("runScript(0, 0) ! Argument", "runScript(1, 4000) = NONE", "runScript(2, 40004000) = NONE", "runScript(3, 400040004000) = NONE",
                 "runScript(4, 4000400040004000) ! Argument", "runScript(4, 0) ! Argument");
+
+        sentence("24: n: number of commands, 1 to 3");
+        run("runScript(1, 4000) = NONE", "runScript(2, 40005000) = NONE", "runScript(3, 400050004000) = NONE", "runScript(0, 0) ! Argument",
+                "runScript(4, 400050004000) ! Argument");
 
         sentence("24: each is a group of four decimal digits d1 to d4, and the first command is the highest group of the number"
                 + " (with zeros before it, if it has fewer digits).");
@@ -478,6 +502,7 @@ public final class PromisesBoundariesTest extends Runs {
         sentence("24: 8 0 b b: succeeds if worth() is at least 100 less bb.");
         run(rows("hedge 00", succeed("8000", "8001", "8099"), "hedge 10", succeed("8003", "8004", "8099"), fail("8002", "8000", "8103", "8903"),
                 "hedge 20", succeed("8000", "8099"), fail("8100")));
+        run(rows("set(0, 1) = 3", "hedge 10", "worth() = 99", succeed("8001", "8002"), fail("8000"), "hedge 20", "worth() = 101", succeed("8000")));
         run(rows("hedge 010101", "wind(1) = 0", "set(1, 1) = 2", "set(0, 9) = 3", succeed("8027", "8028"), fail("8026", "8000")));
 
         sentence("24: 9 0 0 g: succeeds if winner() is g (which may be 2).");
@@ -571,6 +596,7 @@ public final class PromisesBoundariesTest extends Runs {
         sentence("25: q is r / 8. By r % 8: 0: water(q % 6).");
         run("hedge 000000", turns(0, 0, 0, 0, 1, 10003), turns(5, 0, 5, 5, 1, 10003), turns(6, 0, 0, 0, 1, 10003), turns(7, 0, 1, 1, 1, 10003),
                 turns(7, 0, 0, 0, 1, 0), turns(11, 0, 5, 5, 1, 10003), turn(0, 0, 0));
+        run("hedge 00", turns(1, 0, 1, 1, 1, 10003), turns(2, 0, 0, 0, 1, 0), turns(3, 0, 1, 1, 1, 0), turns(6, 0, 0, 0, 1, 10003));
 
         sentence("25: 1: wind(q % 3).");
         run("hedge 11", turns(0, 1, 0, 0, 1, 10003), turns(1, 1, 0, 0, 1, 10006), turns(2, 1, 0, 0, 1, 10003), turns(2, 1, 1, 1, 1, 10006),
@@ -618,6 +644,8 @@ public final class PromisesBoundariesTest extends Runs {
                 "save(1) = 2", "marked", "plant(2, 5) = 2", "wind(0) = 2", "set(0, 1) = 9", "set(1, 1) = 3", "clip(0, 0, 1) = 1", "restore(1) = 2", "marked");
         run("pass() = 1", "save(0) = 0", "pass() = 0", "save(0) = 0", "wind(1) = 0", "restore(0) = 0", "about(4) = 0", "about(3) = 0");
         run("save(0) = 0", "clip(0, 0, 1) = 0", "clip(0, 0, 1) = 3", "restore(0) = 0", "stands 2222", "clips 0 0", "fines 0 0", "taken 0 0");
+        run("clip(0, 0, 1) = 0", "save(0) = 1", "clip(0, 0, 1) = 3", "save(0) = 2", "hedge 33", "restore(0) = 2", "stands 0222", "hedge 33",
+                "save(0) = 0", "pass() = 1", "restore(0) = 0", "stands 33", "about(4) = 0");
         run("pass() = 1", "save(0) = 0", "pass() = 0", "undo() = 1", "undo() = 0", "undo() ! State");
 
         sentence("26: slot: 0 or 1");
@@ -636,6 +664,10 @@ public final class PromisesBoundariesTest extends Runs {
         run("pass() = 1", "save(0) = 0", "14 times wind(2)", "restore(0) = 0", "about(3) = 0", "about(4) = 1",
                 "undo() ! State", "pass() = 0", "undo() = 0", "undo() ! State", "about(4) = 1");
         run("text H33", "save(0) = 0", "text H22", "restore(0) = 0", "load() = 0", "stands 22");
+
+        sentence("27: slot: 0 or 1");
+        run("save(1) = 0", "pass() = 1", "save(0) = 0", "pass() = 0", "restore(0) = 0", "about(4) = 1", "restore(1) = 0", "about(4) = 0",
+                "restore(-1) ! Index", "restore(2) ! Index");
 
         sentence("27: The save slot keeps it.");
         run("save(0) = 0", "clip(0, 0, 1) = 0", "restore(0) = 0", "clip(0, 1, 2) = 6", "water(2) = 3", "restore(0) = 0", "stands 2222", "fines 0 0",

@@ -161,6 +161,11 @@ public final class TermsBoundariesTest extends Runs {
         run("hedge 11", "clip(0, 0, 1) = 3", "fines 3 0", "worth() = 97", "clip(1, 1, 1) = 3", "fines 3 3", "worth() = 100");
         run("hedge 12", "clip(0, 0, 1) = 3", "fines 3 0", "worth() = 103", "pass() = 0", "worth() = 103");
 
+        sentence("if both clip as well as they can until it is over.");
+        // 22 goes on with 12, 11, 01, 00: each pays once. Of 111 the one ahead pays twice, of 3 the other one pays.
+        run("set(1, 1) = 2", "hedge 22", "worth() = 100", "goesOn(18, 1) = 4", "hedge 111", "worth() = 97", "hedge 30", "worth() = 103",
+                "hedge 33", "worth() = 100", "hedge 333333", "worth() = 100", "goesOn(18, 1) = 18");
+
         sentence("So it is 0 for a hedge that is over");
         run("hedge 00", "worth() = 100", "hedge 000000", "set(0, 9) = 3", "wind(2) = 0", "worth() = 100");
         run("hedge 01", "ifClipped(1, 1, 1, 2) = 100", "clip(0, 1, 3) = 3", "worth() = 100");
@@ -365,6 +370,10 @@ public final class TermsBoundariesTest extends Runs {
         run("plant(1, 0) ! Argument", "plant(4, 256) ! Argument", "clip(0, 0, 4) ! Argument", "wind(3) ! Argument", "set(2, 1) ! Argument");
         run("ifClipped(0, 0, 1, 4) ! Argument", "goesOn(0, 0) ! Argument", "goesOn(1, 2) ! Argument", "runScript(4, 0) ! Argument",
                 "simulate(0, 61) ! Argument");
+
+        sentence("IllegalStateException means what the method says.");
+        run("120 times append('x')", "append('x') ! State", "load() ! State", "undo() ! State", "restore(0) ! State", "restore(1) ! State");
+        run("hedge 03", "clip(0, 0, 1) ! State", "water(1) ! State", "clip(1, 1, 3) = 3", "clip(0, 1, 3) ! State");
 
         sentence("If several exceptions apply to a call, the one that its description names first is thrown.");
         run("119 times append('x')", "append('x') = 120", "append(256) ! Argument", "append(-1) ! Argument");
