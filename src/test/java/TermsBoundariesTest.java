@@ -331,8 +331,8 @@ public final class TermsBoundariesTest extends Runs {
         run("water(0) = 3", "water(1) = 3", "water(2) = 3", "undo() = 2", "stands 3322", "undo() = 1", "stands 3222", "undo() = 0", "stands 2222");
 
         sentence("At most 14 states are remembered; when one more is remembered, the oldest one is forgotten.");
-        run(rows("set(0, 1)", "12 times wind(1)", "set(0, 2)", "undo() = 13", "setting(0) = 1", "12 times undo()", "undo() = 0",
-                "setting(0) = 3", "undo() ! State"));
+        run("set(0, 1)", "12 times wind(1)", "set(0, 2)", "undo() = 13", "setting(0) = 1", "12 times undo()", "undo() = 0",
+                "setting(0) = 3", "undo() ! State");
         run("set(0, 1)", "13 times wind(1)", "set(0, 2)", "undo() = 13", "setting(0) = 1", "12 times undo()", "setting(0) = 1",
                 "undo() = 0", "setting(0) = 1", "about(3) = 0", "undo() ! State");
         run("14 times wind(1)", "set(0, 5)", "14 times wind(2)", "undo() = 13", "about(3) = 2", "12 times undo()", "undo() = 0",
