@@ -68,6 +68,7 @@ public final class PromisesBoundariesTest extends Runs {
 
         sentence("5: and then does the commands of the text.");
         run("text H22pg2w0c001c111", "load() = 0", "stands 21", "about(3) = 2", "about(4) = 1", "clips 1 1", "taken 1 1");
+        run("text H22w0p", "load() = 0", "stands 32", "about(4) = 1", "text H22b", "load() = 0", "clips 1 0");
         run("text H22g1c002", "load() = 0", "stands 01", "fines 3 0", "taken 3 0", "load() = 0", "stands 01", "fines 3 0", "clips 1 0");
 
         sentence("5: Behind it no state is remembered, and both save slots are empty.");
@@ -256,7 +257,7 @@ public final class PromisesBoundariesTest extends Runs {
         run("pass() = 1", "pass() = 0", "pass() = 1", "about(4) = 1");
 
         sentence("15: what: 0 or 1");
-        run("set(0, 2) = 3", "setting(0) = 2", "setting(1) = 2", "set(1, 3) = 2", "setting(0) = 2", "setting(1) = 3", "set(-1, 2) ! Argument",
+        run("set(0, 2) = 3", "setting(0) = 2", "setting(1) = 2", "set(1, 3) = 2", "setting(0) = 2", "setting(1) = 3", "set(0, 5) = 2", "setting(0) = 5", "setting(1) = 3", "set(-1, 2) ! Argument",
                 "set(2, 2) ! Argument");
 
         sentence("15: v: the new value, in its range");
@@ -537,7 +538,7 @@ public final class PromisesBoundariesTest extends Runs {
                 scripts("NONE", 2, "4000_4000")));
 
         sentence("24: Throws IllegalArgumentException if n is out of range, or if script is negative or has more than 4 * n digits");
-        run("runScript(0, 4000) ! Argument", "runScript(-1, 4000) ! Argument", "runScript(4, 4000) ! Argument",
+        run("runScript(0, 0) ! Argument", "runScript(0, 4000) ! Argument", "runScript(-1, 4000) ! Argument", "runScript(4, 4000) ! Argument",
                 "runScript(" + LEAST + ", 4000) ! Argument", "runScript(" + MOST + ", 4000) ! Argument");
         run("runScript(1, -1) ! Argument", "runScript(1, -4000) ! Argument", "runScript(3, -1) ! Argument",
                 "runScript(3, " + Long.MIN_VALUE + ") ! Argument", "runScript(3, " + Long.MAX_VALUE + ") ! Argument",
